@@ -264,7 +264,6 @@ public final class RestedArms {
         needState(arm, state);
         indices.refresh(now);
         trial.copy(now);
-        store(trial.places, arm, state);
         scoreAll(trial, BY_INDEX);
         // A greater gift never makes an index less, so the gifts that do lie above all that don't:
         // halving finds the border, and 7 halvings are enough for 0 to 100.

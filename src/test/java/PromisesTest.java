@@ -366,7 +366,7 @@ public final class PromisesTest {
         }
         String[] wrong = {
             "4", "a", ";", "/", "0e", "0A", "0`", "00", "0a>", "0a0", "0a=a", "0a=;", "0a=>", "0a=/", "0a=:", "0a=00",
-            "0a=07", "0a=100", "0a=990", "0a=1=", "0a=12=", "0a=0>e", "0a=0>0", "0a=0>ae", "0a=0>a0", "0a=0>aa9",
+            "0a=07", "0a=5:", "0a=5/", "0a=55:", "0a=100", "0a=990", "0a=1=", "0a=12=", "0a=0>e", "0a=0>0", "0a=0>ae", "0a=0>a0", "0a=0>aa9",
             "0a=0>aa;", "0a=0>aa/", "0a=0>aa80", "0a=0>aa8>", "0a=0;;", "0a=0;4", "0a=0;a", "0a=0>aa8;3d=0>dd9",
             "0a=0>>", "0a=10>b;", "0a=0>`", "0a=0>a`"
         };
@@ -470,6 +470,8 @@ public final class PromisesTest {
         Check.due("14 with 0 the bad alone", reach.stateOf(2, 0, 4), 1 + 4);
         Check.due("14 with 1 both", told("0a=0>bc1").stateOf(0, 0, 4), 7);
         Check.due("14 with 7 both", told("0a=0>bc7").stateOf(0, 0, 4), 7);
+        Check.due("14 with 8 no other", told("0b=0>cd8").stateOf(0, 1, 4), 2 + 4);
+        Check.due("14 with 0 no other", told("0b=0>cd0").stateOf(0, 1, 4), 2 + 8);
         Check.due("14 backwards", told("0d=0>cc4;0c=0>bb4;0b=0>aa4").stateOf(0, 3, 4), 15);
         RestedArms busy = busy();
         for (int no : NO_ARM) {
@@ -529,6 +531,10 @@ public final class PromisesTest {
         Check.due("15 behind read", arms.index(2, 1), (50000 + 79200) / 5);
         arms.undo();
         Check.due("15 behind undo", arms.index(2, 1), 18000);
+        arms.gift(2, 0, 99);
+        Check.due("15 behind a gift on its way", arms.index(2, 1), (50000 + 79200) / 5);
+        arms.way(2, 1, 1, 1, 8);
+        Check.due("15 behind way", arms.index(2, 1), 18000);
         arms.pull(0);
         arms.put(2, 1);
         Check.due("15 not by pulls", arms.index(2, 1), 18000);
@@ -745,6 +751,17 @@ public final class PromisesTest {
         Check.due("24 even", arms.evenness(), 1.0);
         arms.pull(0);
         Check.due("24 two of three", arms.evenness(), 2.0 / 3.0);
+        arms.play(2, 3);
+        Check.due("24 even again", arms.evenness(), 1.0);
+        for (int least = 0; least < 4; least++) {
+            arms.begin(1);
+            for (int arm = 0; arm < 4; arm++) {
+                for (int pull = 0; pull < (arm == least ? 3 : 7 + arm); pull++) {
+                    arms.pull(arm);
+                }
+            }
+            Check.due("24 least of " + least, arms.evenness(), 3.0 / (least == 3 ? 9 : 10));
+        }
         arms.begin(1);
         Check.due("24 begun anew", arms.evenness(), 1.0);
     }
@@ -772,6 +789,21 @@ public final class PromisesTest {
         Check.due("25 a new object", arms.digest(), hash);
         Check.due("25 changes nothing", arms.digest(), hash);
         digestTellsShares();
+        RestedArms busy = busy();
+        busy.clearBuffer();
+        Check.due("25 of busy arms", busy.digest(), listed(busy));
+        busy.begin(9);
+        Check.due("25 of arms begun anew", busy.digest(), listed(busy));
+        busy.set(2, 0);
+        busy.gift(1, 1, 3);
+        Check.due("25 of arms that cost nothing", busy.digest(), listed(busy));
+        RestedArms circle = told("0a=1;1a=1>bb8;1b=99>bb8");
+        circle.set(1, 1);
+        Check.due("25 the best rule there", circle.bestRule(8), 2);
+        Check.due("25 with another best rule", circle.digest(), listed(circle));
+        RestedArms states = told("0a=30;1a=0>bb8;1b=40>bb8");
+        Check.due("25 gifts differ there", states.giftFor(1, 0) != states.giftFor(1, 1));
+        Check.due("25 with another gift", states.digest(), listed(states));
     }
 
     /** The bits of many shares, found as the difference from what the rest of the hash is. */
