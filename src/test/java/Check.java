@@ -1,8 +1,14 @@
 /** Counts and prints the answers that are not the ones that are due. */
 final class Check {
     private static int wrong = 0;
+    private static String place = "";
 
     private Check() {
+    }
+
+    /** What is told ahead of each wrong answer from now on. */
+    static void at(String where) {
+        place = where;
     }
 
     static void due(String what, long got, long want) {
@@ -40,7 +46,7 @@ final class Check {
     static void fail(String what) {
         wrong++;
         if (wrong <= 50) {
-            System.out.println(what);
+            System.out.println(place + what);
         }
     }
 

@@ -8,38 +8,6 @@ public final class PromisesTest {
     private PromisesTest() {
     }
 
-    private static void type(RestedArms arms, String signs) {
-        for (int i = 0; i < signs.length(); i++) {
-            arms.append(signs.charAt(i));
-        }
-    }
-
-    private static RestedArms typed(String signs) {
-        RestedArms arms = new RestedArms();
-        type(arms, signs);
-        return arms;
-    }
-
-    private static RestedArms told(String states) {
-        RestedArms arms = typed(states);
-        arms.read();
-        return arms;
-    }
-
-    /** Four arms that differ, with ways and some pulls, for the calls that must leave them alone. */
-    private static RestedArms busy() {
-        RestedArms arms = told("0a=10>ba4;0b=90>cd2;1a=20>ab7;2c=55>da1;3a=30>aa8");
-        arms.set(2, 3);
-        arms.play(0, 7);
-        arms.pull(2);
-        type(arms, "0a=");
-        return arms;
-    }
-
-    private static long next(long x) {
-        return x * 6364136223846793005L + 1442695040888963407L;
-    }
-
     private static void newObject() {
         RestedArms arms = new RestedArms();
         for (int arm = 0; arm < 4; arm++) {
@@ -168,15 +136,15 @@ public final class PromisesTest {
     }
 
     private static void pull() {
-        // From x = 1 the chances 3, 4, 2, 3, 6 are drawn; the first is below 4, the second is not.
-        RestedArms arms = told("0a=10>bc4;0b=20>ad4;1a=7>dd0");
-        long x = next(1L);
+        // From x = 1 the chances 3, 4, 5, 3, 6 are drawn; the first is below 4, the second is not.
+        RestedArms arms = Made.told("0a=10>bc4;0b=20>ad4;1a=7>dd0");
+        long x = Made.next(1L);
         Check.due("6 the first chance", x >>> 61, 3);
         Check.due("6 to the good state", arms.pull(0), 1);
         Check.due("6 brought", arms.sum(0), 10000);
         Check.due("6 weight", arms.sum(1), 900000);
         Check.due("6 x", arms.sum(2), x);
-        x = next(x);
+        x = Made.next(x);
         Check.due("6 the second chance", x >>> 61, 4);
         Check.due("6 to the bad state", arms.pull(0), 3);
         Check.due("6 brought less", arms.sum(0), 10000 + 18000);
@@ -199,7 +167,7 @@ public final class PromisesTest {
     }
 
     private static void pullRoundsDown() {
-        RestedArms arms = told("0a=3;1a=1");
+        RestedArms arms = Made.told("0a=3;1a=1");
         arms.set(0, 33);
         arms.set(2, 2);
         arms.pull(0);
@@ -213,16 +181,16 @@ public final class PromisesTest {
     }
 
     private static void pullWithRests() {
-        RestedArms arms = told("0a=1>bc4;1a=1>bc4;2a=1>bc4;3a=1>bc4");
+        RestedArms arms = Made.told("0a=1>bc4;1a=1>bc4;2a=1>bc4;3a=1>bc4");
         arms.set(3, 1);
-        // Drawn are 3 for the arm 2, then 4, 2, 3 for the arms 0, 1, 3.
-        long x = next(1L);
+        // Drawn are 3 for the arm 2, then 4, 5, 3 for the arms 0, 1, 3.
+        long x = Made.next(1L);
         Check.due("6 pulled first", x >>> 61, 3);
-        x = next(x);
+        x = Made.next(x);
         Check.due("6 then 0", x >>> 61, 4);
-        x = next(x);
+        x = Made.next(x);
         long third = x >>> 61;
-        x = next(x);
+        x = Made.next(x);
         long fourth = x >>> 61;
         Check.due("6 with rests", arms.pull(2), 1);
         Check.due("6 rested 0", arms.arm(0, 0), 2);
@@ -247,16 +215,8 @@ public final class PromisesTest {
         return state;
     }
 
-    private static RestedArms pulled(int pulls) {
-        RestedArms arms = told("0a=5>bb8;1a=4");
-        for (int left = pulls; left > 0; left -= 99) {
-            arms.play(2, Math.min(left, 99));
-        }
-        return arms;
-    }
-
     private static void pullLimit() {
-        RestedArms arms = pulled(9998);
+        RestedArms arms = Made.pulled(9998);
         arms.pull(3);
         Check.due("6 the limit", arms.count(0), 9999);
         Check.refused("6 beyond", arms, STATE, () -> arms.pull(0));
@@ -270,7 +230,7 @@ public final class PromisesTest {
     }
 
     private static void play() {
-        RestedArms arms = told("0a=5;1a=9;2a=9");
+        RestedArms arms = Made.told("0a=5;1a=9;2a=9");
         Check.due("7 by index, the first is no change", arms.play(0, 3), 0);
         Check.due("7 the lowest of the best", arms.arm(1, 1), 3);
         Check.due("7 brought", arms.sum(0), 9000 + 8100 + 7290);
@@ -297,14 +257,14 @@ public final class PromisesTest {
     }
 
     private static void playLimit() {
-        RestedArms arms = pulled(9950);
+        RestedArms arms = Made.pulled(9950);
         Check.refused("7 more than fit", arms, STATE, () -> arms.play(0, 50));
         Check.due("7 as many as fit", arms.play(2, 49), 49);
         Check.due("7 the limit", arms.count(0), 9999);
     }
 
     private static void begin() {
-        RestedArms arms = told("0a=5>bb8;1b=9");
+        RestedArms arms = Made.told("0a=5>bb8;1b=9");
         arms.set(2, 4);
         arms.put(1, 1);
         arms.play(2, 5);
@@ -348,12 +308,12 @@ public final class PromisesTest {
     }
 
     private static void clearBuffer() {
-        RestedArms arms = typed("0a=1");
+        RestedArms arms = Made.typed("0a=1");
         Check.due("10 length", arms.clearBuffer(), 4);
         Check.due("10 empty", arms.clearBuffer(), 0);
         Check.due("10 saves nothing", arms.count(3), 0);
         Check.due("10 from the start", arms.append('1'), 1);
-        Check.due("10 the same as without", typed("1").digest(), arms.digest());
+        Check.due("10 the same as without", Made.typed("1").digest(), arms.digest());
     }
 
     private static void firstError() {
@@ -362,25 +322,26 @@ public final class PromisesTest {
             "0a=0>dd", "0a=0>ad8", "0a=0>da0", "0a=0;", "0a=5;", "0a=55;1b", "0a=1>bc4;", "0a=0>ad8;3c=1;0a=0;0a=1"
         };
         for (String text : fine) {
-            Check.due("11 " + text, typed(text).firstError(), text.length());
+            Check.due("11 " + text, Made.typed(text).firstError(), text.length());
         }
         String[] wrong = {
             "4", "a", ";", "/", "0e", "0A", "0`", "00", "0a>", "0a0", "0a=a", "0a=;", "0a=>", "0a=/", "0a=:", "0a=00",
-            "0a=07", "0a=5:", "0a=5/", "0a=55:", "0a=100", "0a=990", "0a=1=", "0a=12=", "0a=0>e", "0a=0>0", "0a=0>ae", "0a=0>a0", "0a=0>aa9",
+            "0a=07", "0a=5:", "0a=5/", "0a=55:", "0a=100", "0a=990", "0a=1=", "0a=12=", "0a=0>e",
+            "0a=0>0", "0a=0>ae", "0a=0>a0", "0a=0>aa9",
             "0a=0>aa;", "0a=0>aa/", "0a=0>aa80", "0a=0>aa8>", "0a=0;;", "0a=0;4", "0a=0;a", "0a=0>aa8;3d=0>dd9",
             "0a=0>>", "0a=10>b;", "0a=0>`", "0a=0>a`"
         };
         for (String text : wrong) {
-            Check.due("11 " + text, typed(text).firstError(), text.length() - 1);
-            Check.due("11 behind " + text, typed(text + "0a=1;").firstError(), text.length() - 1);
+            Check.due("11 " + text, Made.typed(text).firstError(), text.length() - 1);
+            Check.due("11 behind " + text, Made.typed(text + "0a=1;").firstError(), text.length() - 1);
         }
-        RestedArms arms = typed("0a=1;0a=1;0a=1;0a=1;0a=1;0a=1;0a=1;0a=1;0a=1;0a=1;0a=1;0a=1>");
+        RestedArms arms = Made.typed("0a=1;0a=1;0a=1;0a=1;0a=1;0a=1;0a=1;0a=1;0a=1;0a=1;0a=1;0a=1>");
         Check.due("11 a full buffer may be a beginning", arms.firstError(), 60);
         Check.due("11 changes nothing", arms.clearBuffer(), 60);
     }
 
     private static void read() {
-        RestedArms arms = typed("0a=10>bc7;3d=9;0a=0;1b=99>ad0");
+        RestedArms arms = Made.typed("0a=10>bc7;3d=9;0a=0;1b=99>ad0");
         Check.due("12 parts", arms.read(), 4);
         Check.due("12 the later part", arms.stateOf(0, 0, 0), 0);
         Check.due("12 the way of the earlier one", arms.stateOf(0, 0, 1) * 100 + arms.stateOf(0, 0, 2) * 10
@@ -393,21 +354,21 @@ public final class PromisesTest {
         Check.due("12 saves as one", arms.count(3), 3);
         arms.undo();
         arms.undo();
-        type(arms, "2");
+        Made.type(arms, "2");
         arms.undo();
         Check.due("12 undone", arms.stateOf(1, 1, 0), 0);
         Check.due("12 undone way", arms.stateOf(0, 0, 3), 4);
         Check.due("12 the buffer is not undone", arms.clearBuffer(), 1);
-        Check.due("12 one part", told("2c=30").stateOf(2, 2, 0), 30);
+        Check.due("12 one part", Made.told("2c=30").stateOf(2, 2, 0), 30);
         for (String text : new String[] {
             "", "0", "0a", "0a=", "0a=1;", "0a=1>", "0a=1>a", "0a=1>aa", "0a=1>aa4;", "0a=1x", "4a=1", "0a=1;;1a=1",
             "0a=100", "0a=1;1a=01", "x0a=1", "0a=1>aa9"
         }) {
-            RestedArms wrong = typed(text);
+            RestedArms wrong = Made.typed(text);
             Check.refused("12 " + text, wrong, ARGUMENT, wrong::read);
             Check.due("12 keeps " + text, wrong.clearBuffer(), text.length());
         }
-        RestedArms full = typed("0a=1;0b=2;0c=3;0d=4;1a=5;1b=6;1c=7;1d=8;2a=9;2b=1;2c=2;3d=34");
+        RestedArms full = Made.typed("0a=1;0b=2;0c=3;0d=4;1a=5;1b=6;1c=7;1d=8;2a=9;2b=1;2c=2;3d=34");
         Check.due("12 a full buffer", full.read(), 12);
         Check.due("12 its last part", full.stateOf(3, 3, 0), 34);
     }
@@ -432,7 +393,7 @@ public final class PromisesTest {
     }
 
     private static void undoBringsAllBack() {
-        RestedArms arms = told("0a=10>ba4;0b=90>cd2;1a=20>ab7;2c=55>da1");
+        RestedArms arms = Made.told("0a=10>ba4;0b=90>cd2;1a=20>ab7;2c=55>da1");
         arms.play(2, 7);
         long before = arms.digest();
         arms.begin(3);
@@ -445,7 +406,7 @@ public final class PromisesTest {
         Check.due("13 play", arms.digest(), before);
         arms.way(0, 0, 3, 3, 1);
         arms.set(0, 10);
-        type(arms, "2c=9>aa0;1d=5");
+        Made.type(arms, "2c=9>aa0;1d=5");
         arms.read();
         arms.pull(3);
         for (int left = 5; left >= 2; left--) {
@@ -455,25 +416,25 @@ public final class PromisesTest {
     }
 
     private static void stateOf() {
-        RestedArms arms = told("1b=42>cd3");
+        RestedArms arms = Made.told("1b=42>cd3");
         int[] due = {42, 2, 3, 3, 14};
         for (int what = 0; what < 5; what++) {
             Check.due("14 what " + what, arms.stateOf(1, 1, what), due[what]);
         }
-        RestedArms reach = told("0a=0>bb4;0b=0>cc4;0c=0>dd4;1a=0>bc8;1b=0>da8");
-        type(reach, "2a=0>bc0;2c=0>da0");
+        RestedArms reach = Made.told("0a=0>bb4;0b=0>cc4;0c=0>dd4;1a=0>bc8;1b=0>da8");
+        Made.type(reach, "2a=0>bc0;2c=0>da0");
         reach.read();
         Check.due("14 three steps", reach.stateOf(0, 0, 4), 15);
         Check.due("14 two steps", reach.stateOf(0, 1, 4), 14);
         Check.due("14 itself", reach.stateOf(0, 3, 4), 8);
         Check.due("14 with 8 the good alone", reach.stateOf(1, 0, 4), 1 + 2 + 8);
         Check.due("14 with 0 the bad alone", reach.stateOf(2, 0, 4), 1 + 4);
-        Check.due("14 with 1 both", told("0a=0>bc1").stateOf(0, 0, 4), 7);
-        Check.due("14 with 7 both", told("0a=0>bc7").stateOf(0, 0, 4), 7);
-        Check.due("14 with 8 no other", told("0b=0>cd8").stateOf(0, 1, 4), 2 + 4);
-        Check.due("14 with 0 no other", told("0b=0>cd0").stateOf(0, 1, 4), 2 + 8);
-        Check.due("14 backwards", told("0d=0>cc4;0c=0>bb4;0b=0>aa4").stateOf(0, 3, 4), 15);
-        RestedArms busy = busy();
+        Check.due("14 with 1 both", Made.told("0a=0>bc1").stateOf(0, 0, 4), 7);
+        Check.due("14 with 7 both", Made.told("0a=0>bc7").stateOf(0, 0, 4), 7);
+        Check.due("14 with 8 no other", Made.told("0b=0>cd8").stateOf(0, 1, 4), 2 + 4);
+        Check.due("14 with 0 no other", Made.told("0b=0>cd0").stateOf(0, 1, 4), 2 + 8);
+        Check.due("14 backwards", Made.told("0d=0>cc4;0c=0>bb4;0b=0>aa4").stateOf(0, 3, 4), 15);
+        RestedArms busy = Made.busy();
         for (int no : NO_ARM) {
             Check.refused("14 arm", busy, BOUNDS, () -> busy.stateOf(no, 0, 0));
             Check.refused("14 state", busy, BOUNDS, () -> busy.stateOf(0, no, 0));
@@ -485,7 +446,7 @@ public final class PromisesTest {
     }
 
     private static void index() {
-        RestedArms arms = told("0a=10;1a=40>bb8;1b=3>bb8");
+        RestedArms arms = Made.told("0a=10;1a=40>bb8;1b=3>bb8");
         arms.set(1, 1);
         // One round: the value is 1000 times the gift, of which 10 in 100 count.
         Check.due("15 one round", arms.index(0, 0), 1000);
@@ -499,14 +460,14 @@ public final class PromisesTest {
         Check.due("15 begins anew", arms.index(1, 0), 35000);
         // With s = 1: 40000, 3000; 41500, 4500; 42250, 5250.
         Check.due("15 its own way", arms.index(1, 1), 2625);
-        RestedArms odd = told("0a=1>ba3;0b=2>ab5");
+        RestedArms odd = Made.told("0a=1>ba3;0b=2>ab5");
         odd.set(0, 33);
         odd.set(1, 2);
         // s = 0: 1000, 2000 behind the first round; then 1000 + 33 * (11000 / 8) / 100 = 1453 (of 1453.75).
         Check.due("15 rounded down", odd.index(0, 0), 973);
         Check.due("15 saves nothing", odd.count(3), 3);
         indexChanges();
-        RestedArms busy = busy();
+        RestedArms busy = Made.busy();
         for (int no : NO_ARM) {
             Check.refused("15 arm", busy, BOUNDS, () -> busy.index(no, 0));
             Check.refused("15 state", busy, BOUNDS, () -> busy.index(0, no));
@@ -526,7 +487,7 @@ public final class PromisesTest {
         Check.due("15 behind rounds", arms.index(2, 1), 18000);
         arms.way(2, 1, 0, 0, 8);
         Check.due("15 begun anew in spite of the way", arms.index(2, 1), 18000);
-        type(arms, "2a=99");
+        Made.type(arms, "2a=99");
         arms.read();
         Check.due("15 behind read", arms.index(2, 1), (50000 + 79200) / 5);
         arms.undo();
@@ -541,7 +502,7 @@ public final class PromisesTest {
     }
 
     private static void arm() {
-        RestedArms arms = told("0b=5;0d=5;1a=9>bb8;1b=1>bb8;2c=1");
+        RestedArms arms = Made.told("0b=5;0d=5;1a=9>bb8;1b=1>bb8;2c=1");
         arms.put(0, 2);
         arms.pull(1);
         arms.pull(1);
@@ -554,7 +515,7 @@ public final class PromisesTest {
         Check.due("16 best of none", arms.arm(3, 2), 0);
         Check.due("16 rounds of nothing", arms.arm(3, 3), 1);
         roundsNeeded();
-        RestedArms busy = busy();
+        RestedArms busy = Made.busy();
         for (int no : NO_ARM) {
             Check.refused("16 arm", busy, BOUNDS, () -> busy.arm(no, 0));
             Check.refused("16 arm ahead of what", busy, BOUNDS, () -> busy.arm(no, 4));
@@ -565,7 +526,7 @@ public final class PromisesTest {
     }
 
     private static void roundsNeeded() {
-        RestedArms arms = told("0a=1");
+        RestedArms arms = Made.told("0a=1");
         arms.set(0, 50);
         // The values are 1000, 1500, 1750, 1875, 1937, 1968, 1984, 1992, 1996, 1998, 1999, 1999: the
         // indices are the halves of them, the last two 999 and 999.
@@ -599,18 +560,18 @@ public final class PromisesTest {
     }
 
     private static void sum() {
-        RestedArms arms = told("0a=99");
+        RestedArms arms = Made.told("0a=99");
         arms.set(0, 99);
         arms.pull(0);
         arms.pull(0);
-        long[] due = {99000 + 98010, 980100, next(next(1))};
+        long[] due = {99000 + 98010, 980100, Made.next(Made.next(1))};
         for (int what = 0; what < 3; what++) {
             Check.due("18 what " + what, arms.sum(what), due[what]);
         }
         for (int no : new int[] {-1, 3, Integer.MIN_VALUE, Integer.MAX_VALUE}) {
             Check.refused("18 what", arms, ARGUMENT, () -> arms.sum(no));
         }
-        RestedArms none = told("0a=99");
+        RestedArms none = Made.told("0a=99");
         none.set(0, 0);
         none.pull(0);
         none.pull(0);
@@ -630,7 +591,7 @@ public final class PromisesTest {
     }
 
     private static void choice() {
-        RestedArms arms = told("0a=10;1a=12>bb8;2a=11>bb8;2b=90");
+        RestedArms arms = Made.told("0a=10;1a=12>bb8;2a=11>bb8;2b=90");
         Check.due("20 by index", arms.choice(0), 2);
         Check.due("20 by gift", arms.choice(1), 1);
         Check.due("20 by circle", arms.choice(2), 0);
@@ -657,7 +618,7 @@ public final class PromisesTest {
     }
 
     private static void choiceByIndexWithCost() {
-        RestedArms arms = told("0a=10;1a=15");
+        RestedArms arms = Made.told("0a=10;1a=15");
         arms.set(0, 50);
         arms.set(1, 1);
         arms.pull(0);
@@ -669,7 +630,7 @@ public final class PromisesTest {
     }
 
     private static void ifPlayed() {
-        RestedArms arms = told("0a=10>bb8;0b=2;1a=8");
+        RestedArms arms = Made.told("0a=10>bb8;0b=2;1a=8");
         long before = arms.digest();
         Check.due("21 one", arms.ifPlayed(1, 1), 10000);
         Check.due("21 two", arms.ifPlayed(1, 2), 10000 + 7200);
@@ -692,16 +653,16 @@ public final class PromisesTest {
     private static void bestRule() {
         Check.due("22 all equal", new RestedArms().bestRule(99), 0);
         // The arm 0 gives 1 and then 90 for ever, which only its index tells.
-        RestedArms later = told("0a=1>bb8;0b=90>bb8;1a=2");
+        RestedArms later = Made.told("0a=1>bb8;0b=90>bb8;1a=2");
         long before = later.digest();
         Check.due("22 at once the gift", later.bestRule(1), 1);
         Check.due("22 in the long run the index", later.bestRule(2), 0);
         Check.due("22 all pulls", later.bestRule(99), 0);
         Check.due("22 changes nothing", later.digest(), before);
-        RestedArms apart = told("0a=1;1a=2");
+        RestedArms apart = Made.told("0a=1;1a=2");
         Check.due("22 the lowest of two equals", apart.bestRule(1), 0);
         // Only the circle comes by the arm 1, which gives more from its second state on.
-        RestedArms trap = told("0a=1;1a=1>bb8;1b=99>bb8;2a=0;3a=0");
+        RestedArms trap = Made.told("0a=1;1a=1>bb8;1b=99>bb8;2a=0;3a=0");
         trap.set(1, 1);
         Check.due("22 the circle finds more", trap.bestRule(6), 2);
         for (int no : new int[] {0, 100, -1, Integer.MIN_VALUE, Integer.MAX_VALUE}) {
@@ -733,9 +694,9 @@ public final class PromisesTest {
         Check.due("23 all others leave for the same cost", arms.giftFor(3, 0), 21);
         Check.due("23 changes nothing", arms.stateOf(1, 0, 0), 0);
         Check.due("23 puts nothing", arms.arm(1, 0), 0);
-        RestedArms wayOn = told("0a=10;1b=0>cc8;1c=50>cc8");
+        RestedArms wayOn = Made.told("0a=10;1b=0>cc8;1c=50>cc8");
         Check.due("23 what comes behind it counts", wayOn.giftFor(1, 1), 0);
-        RestedArms busy = busy();
+        RestedArms busy = Made.busy();
         for (int no : NO_ARM) {
             Check.refused("23 arm", busy, BOUNDS, () -> busy.giftFor(no, 0));
             Check.refused("23 state", busy, BOUNDS, () -> busy.giftFor(0, no));
@@ -785,11 +746,11 @@ public final class PromisesTest {
         for (long value : tail) {
             hash = 31 * hash + value;
         }
-        RestedArms arms = typed("0~");
+        RestedArms arms = Made.typed("0~");
         Check.due("25 a new object", arms.digest(), hash);
         Check.due("25 changes nothing", arms.digest(), hash);
         digestTellsShares();
-        RestedArms busy = busy();
+        RestedArms busy = Made.busy();
         busy.clearBuffer();
         Check.due("25 of busy arms", busy.digest(), listed(busy));
         busy.begin(9);
@@ -797,11 +758,11 @@ public final class PromisesTest {
         busy.set(2, 0);
         busy.gift(1, 1, 3);
         Check.due("25 of arms that cost nothing", busy.digest(), listed(busy));
-        RestedArms circle = told("0a=1;1a=1>bb8;1b=99>bb8");
+        RestedArms circle = Made.told("0a=1;1a=1>bb8;1b=99>bb8");
         circle.set(1, 1);
         Check.due("25 the best rule there", circle.bestRule(8), 2);
         Check.due("25 with another best rule", circle.digest(), listed(circle));
-        RestedArms states = told("0a=30;1a=0>bb8;1b=40>bb8");
+        RestedArms states = Made.told("0a=30;1a=0>bb8;1b=40>bb8");
         Check.due("25 gifts differ there", states.giftFor(1, 0) != states.giftFor(1, 1));
         Check.due("25 with another gift", states.digest(), listed(states));
     }
