@@ -12,7 +12,7 @@ public final class RoomTest {
     private static long made() {
         com.sun.management.ThreadMXBean bean =
                 (com.sun.management.ThreadMXBean) ManagementFactory.getThreadMXBean();
-        return bean.getThreadAllocatedBytes(Thread.currentThread().getId());
+        return bean.getCurrentThreadAllocatedBytes();
     }
 
     private static long callsOf(RestedArms arms) {
